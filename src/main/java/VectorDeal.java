@@ -1188,6 +1188,9 @@ public final class VectorDeal {
         }
 
         int kindAt(int place) {
+            if (place < 0 || place >= PLACE_LIMIT) {
+                return NONE;
+            }
             int cpu = place / VECTOR_LIMIT;
             int vector = place % VECTOR_LIMIT;
             for (int kind = 1; kind < VECTOR_KINDS; kind++) {
@@ -1199,6 +1202,9 @@ public final class VectorDeal {
         }
 
         void put(int place, int kind, int id) {
+            if (place < 0 || place >= PLACE_LIMIT) {
+                return;
+            }
             int cpu = place / VECTOR_LIMIT;
             int bit = 1 << place % VECTOR_LIMIT;
             for (int k = 0; k < VECTOR_KINDS; k++) {
@@ -1209,17 +1215,22 @@ public final class VectorDeal {
         }
 
         boolean isPending(int place) {
-            return (pending[place / VECTOR_LIMIT] >>> place % VECTOR_LIMIT & 1) == 1;
+            return place >= 0 && place < PLACE_LIMIT
+                    && (pending[place / VECTOR_LIMIT] >>> place % VECTOR_LIMIT & 1) == 1;
         }
 
         void pend(int place) {
-            pending[place / VECTOR_LIMIT] |= 1 << place % VECTOR_LIMIT;
+            if (place >= 0 && place < PLACE_LIMIT) {
+                pending[place / VECTOR_LIMIT] |= 1 << place % VECTOR_LIMIT;
+            }
         }
 
         /** Nothing is PENDING at the place then: whether it was. */
         boolean unpend(int place) {
             boolean was = isPending(place);
-            pending[place / VECTOR_LIMIT] &= ~(1 << place % VECTOR_LIMIT);
+            if (was) {
+                pending[place / VECTOR_LIMIT] &= ~(1 << place % VECTOR_LIMIT);
+            }
             return was;
         }
 
@@ -1235,24 +1246,25 @@ public final class VectorDeal {
             return NONE;
         }
 
+        private boolean isFreeBlock(int cpu, int vector, int n) {
+            int ones = (1 << n) - 1;
+            return (row[FREE][cpu] >>> vector & ones) == ones;
+        }
+
         /** The least VECTOR of a CPU from which n FREE ones stand, n dividing it. One is a BLOCK too. */
         int firstBlock(int cpu, int n) {
-            int ones = (1 << n) - 1;
-            for (int v = 0; v + n <= board.vectors; v += n) {
-                if ((row[FREE][cpu] >>> v & ones) == ones) {
+            for (int v = 0; n > 0 && v + n <= board.vectors; v += n) {
+                if (isFreeBlock(cpu, v, n)) {
                     return v;
                 }
             }
             return NONE;
         }
 
-        int blocks(int cpu, int n) {
-            int ones = (1 << n) - 1;
+        int countBlocks(int cpu, int n) {
             int count = 0;
-            for (int v = 0; v + n <= board.vectors; v += n) {
-                if ((row[FREE][cpu] >>> v & ones) == ones) {
-                    count++;
-                }
+            for (int v = 0; n > 0 && v + n <= board.vectors; v += n) {
+                count += isFreeBlock(cpu, v, n) ? 1 : 0;
             }
             return count;
         }
@@ -1628,6 +1640,7 @@ public final class VectorDeal {
             }
             tally.ticks++;
             if (count > 0) {
+                // Only what was handled makes an OLD one DRAIN, or be PENDING no more.
                 releaseDrained();
             }
             return count;
@@ -1636,7 +1649,7 @@ public final class VectorDeal {
         private void deliver(int place) {
             rows.unpend(place);
             int id = rows.owner[place];
-            if (id == NONE) {
+            if (id < 0) {
                 return;
             }
             boolean byOld = oldAt[id] == place;
@@ -1899,7 +1912,7 @@ public final class VectorDeal {
         int roomFor(State state, int n) {
             int blocks = 0;
             for (int c = 0; c < board.cpus; c++) {
-                blocks += state.rows.isOnline(c) ? state.rows.blocks(c, n) : 0;
+                blocks += state.rows.isOnline(c) ? state.rows.countBlocks(c, n) : 0;
             }
             int unpromised = Math.max(state.rows.freeOnline() - state.promisedVectors(), 0);
             return n < 1 ? 0 : Math.min(blocks, unpromised / n);
