@@ -1704,7 +1704,6 @@ public final class VectorDeal {
         private void replace(int id, int place) {
             rows.put(heldAt[id], OLD, id);
             oldAt[id] = heldAt[id];
-            drains[id] = false;
             hold(id, place);
         }
 

@@ -263,6 +263,29 @@ public final class ActsTest {
         due("12 reserved again", x.vector(1, 0, 0), 4);
         due("12 its own", x.vector(1, 0, 1) * 10 + x.vector(1, 0, 2), 20);
         due("12 law", x.law(), 0);
+        drainingIsForgotten();
+    }
+
+    /** An old one that drains, and pends behind another: then the device stops, or the new one's cpu leaves. */
+    private static void drainingIsForgotten() {
+        String board = "cpus 3;vectors 8;device m managed 1;device a single on 0;device z group 4 on 0;";
+        String orders = "start m;start a;start z;raise m 0;move m 0 to 1;raise m 0;raise z 3;tick 1;";
+        VectorDeal x = Check.made(board, orders);
+        due("12 drains, but pends", x.line(0, 0, 4) * 10 + x.vector(0, 0, 3), 11);
+        x.stop(0);
+        x.start(0);
+        due("12 another start drains nothing", x.line(0, 0, 4), 0);
+        VectorDeal y = Check.made(board, orders);
+        due("12 new one's cpu leaves", y.unplug(1), 0);
+        due("12 it holds its old one", at(y, 0, 0), 0);
+        due("12 that drains nothing", y.line(0, 0, 4), 0);
+        due("12 nothing was merged", y.device(0, 6), 0);
+        y.tick(5);
+        due("12 held yet", y.vector(0, 0, 0), 2);
+        VectorDeal z = Check.made(board, orders);
+        due("12 old one's cpu leaves", z.unplug(0), 0);
+        due("12 drains no more", z.line(0, 0, 4), 0);
+        due("12 pends at the new one", z.vector(1, 0, 3), 1);
     }
 
     private static void promise13MoveOne() {

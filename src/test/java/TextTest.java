@@ -84,8 +84,22 @@ public final class TextTest {
         due("3 not more again", x.end(8), NONE);
         due("3 board of the first", x.board(), 0);
         due("3 cpus", x.about(0), 3);
+        // what stood behind the end is no part of a TOKEN that the end cuts
+        cut("cpus 22;", 6, 2, 6);
+        cut("cpus 2x;", 6, 2, 6);
+        cut("cpus 1234;", 8, 4, 5);
+        cut("abcdefghi", 8, 2, 0);
+        cut("cpus 2 ;", 7, 2, 7);
         due("3 least", x.end(Integer.MIN_VALUE), NONE);
         due("3 greatest", x.end(Integer.MAX_VALUE), NONE);
+    }
+
+    private static void cut(String text, int n, int fault, int place) {
+        VectorDeal x = new VectorDeal();
+        Check.tape(x, text);
+        due("3 cut " + text, x.end(n), n);
+        due("3 board of " + text + " cut", x.board(), NONE);
+        due("3 fault of " + text + " cut", x.fault(0) * 1000 + x.fault(1), fault * 1000 + place);
     }
 
     private static void promise4Board() {
@@ -128,6 +142,7 @@ public final class TextTest {
         x.raise(0, 0, false);
         x.stop(0);
         due("4 dropped before", x.about(9), 1);
+        x.tick(1);
         x.undo();
         due("4 anew", Check.board(x, "cpus 2;device a single;device b single;"), 2);
         due("4 not started", x.device(0, 3), 0);
@@ -247,6 +262,13 @@ public final class TextTest {
         fault("cpus 9 #", 4, 5);
         fault("cpus2;device a1", 2, 14);
         fault("cpus2;deviceasingle;", 1, 6);
+        // as many TOKENS, and as long ones, as a TAPE can have
+        fault(";".repeat(800), 2, 0);
+        fault("9;".repeat(400), 2, 0);
+        fault("7".repeat(800), 1, 0);
+        fault("a".repeat(800), 1, 0);
+        fault(" ".repeat(799) + "a", 2, 799);
+        fault("kept" + " 1".repeat(398), 3, 7);
     }
 
     private static void promise6FaultsOfBoards() {
