@@ -49,7 +49,7 @@ public final class VectorDeal {
 
     private static final int NO_TOKEN = 1;
     private static final int OUT_OF_PLACE = 2;
-    private static final int TOLD_ALREADY = 3;
+    private static final int TOLD_OR_UNKNOWN = 3;
     private static final int WRONG_NUMBER = 4;
 
     private static final int TOKEN_END = 0;
@@ -758,7 +758,7 @@ public final class VectorDeal {
                     return blame(WRONG_NUMBER);
                 }
                 if ((bits >>> number & 1) == 1) {
-                    return blame(TOLD_ALREADY);
+                    return blame(TOLD_OR_UNKNOWN);
                 }
                 bits |= 1 << number;
                 advance();
@@ -945,7 +945,7 @@ public final class VectorDeal {
                 return tokens.blame(OUT_OF_PLACE);
             }
             if (told) {
-                return tokens.blame(TOLD_ALREADY);
+                return tokens.blame(TOLD_OR_UNKNOWN);
             }
             tokens.advance();
             return tokens.fitsNumber(least, most);
@@ -982,7 +982,7 @@ public final class VectorDeal {
                 return false;
             }
             if (draft.deviceNamed(tokens.name) != NONE) {
-                return tokens.blame(TOLD_ALREADY);
+                return tokens.blame(TOLD_OR_UNKNOWN);
             }
             draft.name[d] = tokens.name;
             draft.letters[d] = tokens.letters;
@@ -1106,7 +1106,7 @@ public final class VectorDeal {
             }
             device[k] = board.deviceNamed(tokens.name);
             if (device[k] == NONE) {
-                return tokens.blame(TOLD_ALREADY);
+                return tokens.blame(TOLD_OR_UNKNOWN);
             }
             tokens.advance();
             return true;
