@@ -141,10 +141,10 @@ public final class VectorDeal {
     public int board() {
         tokens.open(tapeLength);
         tapeLength = 0;
-        refusal = DONE;
         if (!boardText.read()) {
             return NONE;
         }
+        refusal = DONE;
         board.copyFrom(boardText.draft);
         history.now.empty();
         history.forget();

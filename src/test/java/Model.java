@@ -664,7 +664,6 @@ final class Model {
         at = 0;
         fault = 0;
         place = NONE;
-        refused = 0;
     }
 
     private int faulty(Stop s) {
@@ -712,6 +711,7 @@ final class Model {
         } catch (Stop s) {
             return faulty(s);
         }
+        refused = 0;
         cf = c;
         w = new World(cf);
         undo.clear();
@@ -752,6 +752,7 @@ final class Model {
 
     int orders() {
         open();
+        refused = 0;
         List<Object[]> list = new ArrayList<>();
         try {
             for (read(); !token.isEmpty(); sign()) {

@@ -10,6 +10,7 @@ public final class TextTest {
         promise4Board();
         promise4BoardStartsAnew();
         promise4FaultLeavesAll();
+        promise4FaultLeavesWhatCallsTold();
         promise5Orders();
         promise5OrdersOfEveryKind();
         promise6FaultsOfTokens();
@@ -176,6 +177,22 @@ public final class TextTest {
         due("4 tape empty", x.about(12), 0);
         due("4 box stays", x.back(0), 1);
         due("4 name stays", Check.orders(x, "stop a;"), 1);
+    }
+
+    private static void promise4FaultLeavesWhatCallsTold() {
+        VectorDeal x = Check.made("cpus 2;device a single;device b single;", "start a;raise a 0;tick 1;claim b;");
+        x.raise(0, 0, false);
+        x.undo();
+        due("4 refused before", Check.orders(x, "start a;"), 0);
+        due("4 fault again", Check.board(x, "vectors 7;"), NONE);
+        due("4 its fault", x.fault(0), 4);
+        due("4 refused stays", x.refused(), 4);
+        due("4 log stays", x.log(0, 0), 0);
+        due("4 handled stays", x.cpu(0, 6), 1);
+        due("4 delivered stays", x.device(0, 5), 1);
+        due("4 promise stays", x.about(5), 1);
+        due("4 redo stays", x.redo() ? 1 : 0, 1);
+        due("4 done again", x.about(13), 1);
     }
 
     private static void promise5Orders() {
@@ -444,7 +461,18 @@ public final class TextTest {
         due("7 behind a fault", x.refused(), 0);
         refusedBy(x, "stop a;", 0, 4);
         Check.board(x, "#");
-        due("7 behind a board's fault", x.refused(), 0);
+        due("7 a board's fault leaves it", x.refused(), 4);
+        Check.board(x, "cpus 2;cpus");
+        due("7 a second fault leaves it", x.refused(), 4);
+        refusedBy(x, "tick 1;", 1, 0);
+        Check.board(x, "#");
+        due("7 nothing refused stays so", x.refused(), 0);
+        refusedBy(x, "stop a;", 0, 4);
+        Check.orders(x, "#");
+        due("7 behind a fault of orders", x.refused(), 0);
+        refusedBy(x, "stop a;", 0, 4);
+        Check.orders(x, "");
+        due("7 behind empty orders", x.refused(), 0);
         refusedBy(x, "stop a;", 0, 4);
         Check.board(x, "");
         due("7 behind a board", x.refused(), 0);
