@@ -1523,7 +1523,7 @@ public final class VectorDeal {
             }
             for (int q = 0; q < board.lines[device]; q++) {
                 int id = device * LINE_LIMIT + q;
-                int place = leastReserved(id, board.allCpus());
+                int place = leastLoadedPlace(id, board.allCpus());
                 if (place != NONE) {
                     hold(id, place);
                 }
@@ -1549,11 +1549,17 @@ public final class VectorDeal {
             }
         }
 
-        /** What is RESERVED for a QUEUE on the least loaded of its ONLINE CPUS among some. */
-        private int leastReserved(int id, int cpus) {
+        /**
+         * What a QUEUE has on the least loaded of its ONLINE CPUS among some: what is RESERVED for it,
+         * or its OLD one, since nothing is RESERVED for it where that is.
+         */
+        private int leastLoadedPlace(int id, int cpus) {
             int own = board.queueCpus(id / LINE_LIMIT, id % LINE_LIMIT);
             int cpu = rows.leastLoaded(own & cpus);
-            return cpu == NONE ? NONE : rows.reservedPlace(cpu, id);
+            if (cpu == NONE) {
+                return NONE;
+            }
+            return isAt(oldAt[id], cpu) ? oldAt[id] : rows.reservedPlace(cpu, id);
         }
 
         /** STOP: how many were DROPPED; NONE if it is not STARTED. */
@@ -1682,7 +1688,7 @@ public final class VectorDeal {
                 return OLD_IS_THERE;
             }
             int others = cpus & ~(1 << heldAt[id] / VECTOR_LIMIT);
-            int place = isManaged(device) ? leastReserved(id, others) : rows.deal(others, n);
+            int place = isManaged(device) ? leastLoadedPlace(id, others) : rows.deal(others, n);
             if (place == NONE) {
                 return NO_ROOM;
             }
@@ -1773,11 +1779,13 @@ public final class VectorDeal {
             }
         }
 
-        /** A QUEUE that has an OLD one goes back to that; else it goes as in MOVE, or is SHUT. */
+        /** A QUEUE goes as in MOVE, or is SHUT. Its OLD one ends only if that is what it HOLDS then. */
         private void bringQueueAway(int id) {
-            int place = oldAt[id] != NONE ? oldAt[id] : leastReserved(id, board.allCpus());
-            oldAt[id] = NONE;
-            drains[id] = false;
+            int place = leastLoadedPlace(id, board.allCpus());
+            if (place == oldAt[id]) {
+                oldAt[id] = NONE;
+                drains[id] = false;
+            }
             if (place != NONE) {
                 carry(id, place);
                 return;

@@ -268,7 +268,8 @@ public final class ActsTest {
 
     /** An old one that drains, and pends behind another: then the device stops, or the new one's cpu leaves. */
     private static void drainingIsForgotten() {
-        String board = "cpus 3;vectors 8;device m managed 1;device a single on 0;device z group 4 on 0;";
+        String rest = "device a single on 0;device z group 4 on 0;";
+        String board = "cpus 3;vectors 8;device m managed 1 on 0 1;" + rest;
         String orders = "start m;start a;start z;raise m 0;move m 0 to 1;raise m 0;raise z 3;tick 1;";
         VectorDeal x = Check.made(board, orders);
         due("12 drains, but pends", x.line(0, 0, 4) * 10 + x.vector(0, 0, 3), 11);
@@ -286,6 +287,21 @@ public final class ActsTest {
         due("12 old one's cpu leaves", z.unplug(0), 0);
         due("12 drains no more", z.line(0, 0, 4), 0);
         due("12 pends at the new one", z.vector(1, 0, 3), 1);
+        drainingGoesOn(Check.made("cpus 3;vectors 8;device m managed 1;" + rest, orders));
+    }
+
+    /** The new one's cpu leaves for a third one: the old one stays, and is reserved once it was handled. */
+    private static void drainingGoesOn(VectorDeal x) {
+        due("12 new one's cpu leaves", x.unplug(1), 0);
+        due("12 for a third one", at(x, 0, 0), 200);
+        due("12 its old one is there", oldAt(x, 0, 0), 0);
+        due("12 and drains, and pends", x.line(0, 0, 4) * 10 + x.vector(0, 0, 3), 11);
+        due("12 nothing pends at the third one", x.cpu(2, 3), 0);
+        due("12 the old one is heard", x.tick(1), 1);
+        due("12 by an old one", x.log(0, 4), 1);
+        due("12 old no more", oldAt(x, 0, 0), NONE);
+        due("12 reserved", x.vector(0, 0, 0), 4);
+        due("12 law", x.law(), 0);
     }
 
     private static void promise13MoveOne() {
@@ -446,8 +462,8 @@ public final class ActsTest {
         due("14 merged", x.device(1, 6), 1);
         due("14 old is reserved", x.vector(2, 0, 0), 4);
         due("14 held", at(x, 1, 0), 101);
-        // the held one's cpu leaves: to where the old one is, although cpu 2 has less load
-        VectorDeal y = Check.made("cpus 3;vectors 8;device m managed 1;device s single on 0;", "start m;start s;raise m 0;move m 0 to 1;raise m 0;");
+        // the held one's cpu leaves: to where the old one is, of like loads the least
+        VectorDeal y = Check.made("cpus 3;vectors 8;device m managed 1;device s single on 2;", "start m;start s;raise m 0;move m 0 to 1;raise m 0;");
         due("14 new", at(y, 0, 0), 100);
         due("14 leaves", y.unplug(1), 0);
         due("14 where its old one is", at(y, 0, 0), 0);
@@ -456,6 +472,36 @@ public final class ActsTest {
         due("14 merged", y.device(0, 6), 1);
         due("14 pends", y.vector(0, 0, 3), 1);
         due("14 reserved", y.vector(1, 0, 0), 4);
+        due("14 law", y.law(), 0);
+        promise14QueueBesideItsOld();
+    }
+
+    /** A queue leaves for a cpu of less load than the one where its old one is: that stays old. */
+    private static void promise14QueueBesideItsOld() {
+        String board = "cpus 3;vectors 8;device m managed 1;device s single on 0;device t single on 2;";
+        VectorDeal x = Check.made(board, "start m;start s;start t;raise m 0;move m 0 to 1;raise m 0;");
+        due("14 would leave", x.without(1, 0) * 10 + x.without(1, 1), 1);
+        due("14 leaves", x.unplug(1), 0);
+        due("14 to the least load", at(x, 0, 0), 200);
+        due("14 its old one stays", oldAt(x, 0, 0), 0);
+        due("14 old by kind", x.vector(0, 0, 0), 3);
+        due("14 both pend", x.vector(0, 0, 3) * 10 + x.vector(2, 0, 3), 11);
+        due("14 nothing merged", x.device(0, 6), 0);
+        due("14 what it held is reserved", x.vector(1, 0, 0) * 10 + x.vector(1, 0, 3), 40);
+        due("14 old yet", x.move(0, 0, 1), 3);
+        due("14 late goes to the old one", x.raise(0, 0, true), 0);
+        due("14 law", x.law(), 0);
+        due("14 undo", x.undo() && x.undo(), true);
+        due("14 as it was", at(x, 0, 0) * 1000 + oldAt(x, 0, 0), 100_000);
+        // of like loads the least, although the old one is on another
+        VectorDeal y = Check.made(board, "start m;move m 0 to 2;raise m 0;tick 1;move m 0 to 1;start s;unplug 1;");
+        due("14 the least of like ones", at(y, 0, 0), 0);
+        due("14 its old one stays", oldAt(y, 0, 0), 200);
+        // then the old one's cpu leaves, too
+        y.raise(0, 0, true);
+        due("14 old one's cpu leaves", y.unplug(2), 0);
+        due("14 brought to what it holds", y.vector(0, 0, 3) * 10 + y.vector(2, 0, 3), 10);
+        due("14 no old one", oldAt(y, 0, 0), NONE);
         due("14 law", y.law(), 0);
     }
 

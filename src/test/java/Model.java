@@ -497,16 +497,21 @@ final class Model {
             boolean pending = was.pending;
             was.pending = false;
             was.kind = Kind.RESERVED;
-            int c = line.oldCpu != NONE ? line.oldCpu : least(queueCpus(d, q));
-            int v = line.oldCpu != NONE ? line.oldVec : c == NONE ? NONE : reserved(d, q, c);
-            line.oldCpu = NONE;
-            line.oldVec = NONE;
-            line.drains = false;
             line.cpu = NONE;
             line.vec = NONE;
+            int c = least(queueCpus(d, q));
             if (c == NONE) {
                 line.waits = pending;
                 return;
+            }
+            int v;
+            if (c == line.oldCpu) {
+                v = line.oldVec;
+                line.oldCpu = NONE;
+                line.oldVec = NONE;
+                line.drains = false;
+            } else {
+                v = reserved(d, q, c);
             }
             hold(d, q, c, v);
             if (pending) {
