@@ -26,6 +26,17 @@ public final class LawTest {
         started.setAccessible(true);
         started.setInt(state(x), 0);
         CHECK.due("VECTORS of what is not STARTED", x.law(), 3);
+        x = Check.made("cpus 2;device a single;device b single;device c managed 1 on 1;device d single;", "start d;start c;");
+        ((int[]) of(state(x), "heldAt"))[3 * 8] = 5;
+        CHECK.due("a LINE of a later DEVICE", x.law(), 2);
+        x = Check.made("cpus 2;device m managed 2;", "start m;");
+        ((int[][]) of(of(state(x), "rows"), "row"))[0][0] &= ~2;
+        ((int[][]) of(of(state(x), "rows"), "row"))[4][0] |= 2;
+        ((int[]) of(of(state(x), "rows"), "owner"))[1] = 1;
+        CHECK.due("a VECTOR RESERVED for a QUEUE that is not on that CPU", x.law(), 1);
+        x = started();
+        ((int[]) of(of(state(x), "rows"), "pending"))[0] |= 2;
+        CHECK.due("a message at what is RESERVED", x.law(), 1);
         CHECK.finish();
     }
 
