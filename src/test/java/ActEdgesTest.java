@@ -124,8 +124,9 @@ public final class ActEdgesTest {
 
     /** .. and have a FREE one. */
     private static void oneWhereThereIsRoom() {
-        // three VECTORS each: on 0 s and two that are RESERVED, on 1 m and u, on 2 n and two more
-        VectorDeal x = Check.made("cpus 3;vectors 8;kept 3 4 5 6 7;device s single on 0;device m managed 1 on 0 1;device n managed 1 on 0 2;"
+        // three VECTORS each: on 0 s and two that are RESERVED, on 1 m and u, on 2 n and v
+        VectorDeal x = Check.made("cpus 3;vectors 8;kept 3 4 5 6 7;device s single on 0;device m managed 1 on 0 1;"
+                + "device n managed 1 on 0 2;"
                 + "device u single on 1;device g group 2 on 2;device v single on 2;device a single;device b single;",
                 "start s;start m;start n;start u;start v;start b;");
         due("m is on 1", at(x, 1, 0), 100);
@@ -148,7 +149,8 @@ public final class ActEdgesTest {
 
     /** For a group of n: likewise, of those that have n FREE ones from a multiple of n on; there the least BLOCK. */
     private static void groupToAnAlignedBlock() {
-        VectorDeal x = Check.made("cpus 2;vectors 8;kept 3;device g group 2 on 0;device h group 2 on 0;device a single on 1;device b single on 1;"
+        VectorDeal x = Check.made("cpus 2;vectors 8;kept 3;device g group 2 on 0;device h group 2 on 0;device a single on 1;"
+                + "device b single on 1;"
                 + "device c single on 1;device q group 4;device r group 4;device e group 8;", "start g;start h;start a;start b;start c;");
         due("g", at(x, 0, 0) * 1000 + at(x, 0, 1), 1);
         due("h behind what is kept", at(x, 1, 0) * 1000 + at(x, 1, 1), 4005);
@@ -188,7 +190,10 @@ public final class ActEdgesTest {
         due("the last vector is handled", last.tick(1), 1);
     }
 
-    /** managed: for each QUEUE, on each of its CPUS, ONLINE or not, the least FREE VECTOR is RESERVED; .. HELD ..; SHUT, if none is ONLINE. */
+    /**
+     * managed: for each QUEUE, on each of its CPUS, ONLINE or not, the least FREE VECTOR is RESERVED; .. HELD ..;
+     * SHUT, if none is ONLINE.
+     */
     private static void queuesAreReservedOnAll() {
         VectorDeal x = Check.made("cpus 4;vectors 8;kept 1;off 1 3;device s single on 0;device m managed 2;device o managed 3 on 3 0;",
                 "start s;");
@@ -217,7 +222,8 @@ public final class ActEdgesTest {
 
     /** START .. REFUSED: (1) there is no room for all. */
     private static void queuesNeedRoomForAll() {
-        String board = "cpus 2;vectors 8;kept 2 3 4 5 6 7;off 1;device f managed 4;device m managed 5;device o managed 2 on 1;device n managed 1;"
+        String board = "cpus 2;vectors 8;kept 2 3 4 5 6 7;off 1;device f managed 4;device m managed 5;device o managed 2 on 1;"
+                + "device n managed 1;"
                 + "device s single on 0;";
         VectorDeal x = Check.made(board);
         idle(x, "three on 0", () -> x.start(1), 1);
@@ -235,7 +241,8 @@ public final class ActEdgesTest {
 
     /** 8: 1, 2 REFUSED; 4: it is STARTED; NONE if there is no such DEVICE; (1) goes ahead of (2). */
     private static void startRefused() {
-        VectorDeal x = Check.made("cpus 2;vectors 8;kept 0 1 2 3 4 5;device a single on 0;device b single on 0;device c single on 0;device d single;"
+        VectorDeal x = Check.made("cpus 2;vectors 8;kept 0 1 2 3 4 5;device a single on 0;device b single on 0;device c single on 0;"
+                + "device d single;"
                 + "device g group 2 on 0;device m managed 1 on 1;");
         for (int device : new int[] {-1, 6, 7, 10, LEAST, GREATEST}) {
             idle(x, "start " + device, () -> x.start(device), NONE);
@@ -258,7 +265,8 @@ public final class ActEdgesTest {
 
     /** 10: It is PROMISED: 0; 2 REFUSED; 4: it is PROMISED, STARTED or managed; NONE if there is no such DEVICE. */
     private static void claimRefused() {
-        VectorDeal x = Check.made("cpus 2;vectors 8;kept 0 3 4 5 6 7;off 1;device a single;device b single;device g group 2;device m managed 1;"
+        VectorDeal x = Check.made("cpus 2;vectors 8;kept 0 3 4 5 6 7;off 1;device a single;device b single;device g group 2;"
+                + "device m managed 1;"
                 + "device h group 4;");
         for (int device : new int[] {-1, 5, 6, 10, LEAST, GREATEST}) {
             idle(x, "claim " + device, () -> x.claim(device), NONE);
@@ -289,7 +297,8 @@ public final class ActEdgesTest {
 
     /** FREE ones .. must be no fewer than all that is PROMISED: START (behind it; its own promise is gone by it) .. REFUSED (2). */
     private static void promisesAndStart() {
-        VectorDeal x = Check.made("cpus 1;vectors 8;kept 0 1 2 3;device g group 2;device a single;device b single;device c single;device h group 2;");
+        VectorDeal x = Check.made("cpus 1;vectors 8;kept 0 1 2 3;device g group 2;device a single;device b single;device c single;"
+                + "device h group 2;");
         x.claim(0);
         act(x, "one of two that are not promised", () -> x.start(1), 0);
         idle(x, "two of one that is not promised", () -> x.start(4), 2);
@@ -306,7 +315,8 @@ public final class ActEdgesTest {
 
     /** START of a managed one: what it reserves where a CPU is ONLINE is FREE no more. */
     private static void promisesAndQueues() {
-        VectorDeal x = Check.made("cpus 2;vectors 8;kept 2 3 4 5 6 7;off 1;device a single;device b single;device o managed 2 on 1;device n managed 1;");
+        VectorDeal x = Check.made("cpus 2;vectors 8;kept 2 3 4 5 6 7;off 1;device a single;device b single;device o managed 2 on 1;"
+                + "device n managed 1;");
         x.claim(0);
         x.claim(1);
         act(x, "reserved where it is off", () -> x.start(2), 0);
@@ -320,7 +330,8 @@ public final class ActEdgesTest {
 
     /** .. claim(), UNPLUG are REFUSED (2) if they would not be: other ACTS are not. */
     private static void promisesAndOtherActs() {
-        VectorDeal x = Check.made("cpus 2;vectors 8;kept 0 1 2 3 4 5;device a single on 0;device b single;device c single;device d single;device o managed 1 on 1;");
+        VectorDeal x = Check.made("cpus 2;vectors 8;kept 0 1 2 3 4 5;device a single on 0;device b single;device c single;"
+                + "device d single;device o managed 1 on 1;");
         x.start(0);
         x.claim(1);
         x.claim(2);
@@ -335,7 +346,8 @@ public final class ActEdgesTest {
         due("three again", x.about(4), 3);
         act(x, "its own promise", () -> x.start(1), 0);
         // UNPLUG that leaves as many as are promised, and one fewer
-        VectorDeal y = Check.made("cpus 2;vectors 8;kept 0 1 2 3 4 5;device a single on 0;device b single;device c single;", "start a;claim b;");
+        VectorDeal y = Check.made("cpus 2;vectors 8;kept 0 1 2 3 4 5;device a single on 0;device b single;device c single;",
+                "start a;claim b;");
         act(y, "as many as are promised", () -> y.unplug(0), 0);
         y.undo();
         y.claim(2);
@@ -346,7 +358,8 @@ public final class ActEdgesTest {
 
     /** STOP: its VECTORS (HELD, OLD, RESERVED) are FREE; what is PENDING there, or WAITS, is DROPPED. 9: how many. */
     private static void stopDrops() {
-        VectorDeal x = Check.made("cpus 3;vectors 8;kept 7;device a single on 0;device g group 2 on 0;device m managed 2 on 0 1;device o managed 1 on 2;",
+        VectorDeal x = Check.made("cpus 3;vectors 8;kept 7;device a single on 0;device g group 2 on 0;device m managed 2 on 0 1;"
+                + "device o managed 1 on 2;",
                 "start a;start g;start m;start o;move a 0 to 1;move g 0 to 1;");
         act(x, "none pends", () -> x.stop(3), 0);
         Check.orders(x, "start o;late a 0;raise a 0;late g 0;late g 1;raise g 1;raise m 0;raise o 0;raise o 0;");
@@ -433,7 +446,8 @@ public final class ActEdgesTest {
 
     /** 11: NONE, doing nothing, if there is no such DEVICE, LINE, or it is not STARTED. */
     private static void raiseOfNone() {
-        VectorDeal x = Check.made("cpus 2;vectors 8;device a single;device g group 4;device m managed 3;device z single;", "start a;start g;start m;claim z;");
+        VectorDeal x = Check.made("cpus 2;vectors 8;device a single;device g group 4;device m managed 3;device z single;",
+                "start a;start g;start m;claim z;");
         for (boolean late : new boolean[] {false, true}) {
             for (int device : new int[] {-1, 4, 10, LEAST, GREATEST}) {
                 idle(x, "raise " + device, () -> x.raise(device, 0, late), NONE);
@@ -469,7 +483,8 @@ public final class ActEdgesTest {
 
     /** A TICK: each ONLINE CPU, from 0 on, handles of its PENDING VECTORS the greatest. */
     private static void tickHandlesTheGreatest() {
-        VectorDeal x = Check.made("cpus 2;vectors 32;device g group 8 on 0;device h group 8 on 0;device i group 8 on 0;device j group 8 on 0;device a single on 1;",
+        VectorDeal x = Check.made("cpus 2;vectors 32;device g group 8 on 0;device h group 8 on 0;device i group 8 on 0;"
+                + "device j group 8 on 0;device a single on 1;",
                 "start g;start h;start i;start j;start a;raise g 0;raise j 7;raise g 1;raise h 7;raise a 0;");
         act(x, "the greatest of each", () -> x.tick(1), 2);
         due("first that of 0, at 31", x.log(1, 2) * 100 + x.log(1, 3), 31);
@@ -571,7 +586,10 @@ public final class ActEdgesTest {
         due("back", at(y, 1, 3), 3);
     }
 
-    /** A QUEUE: to that of its ONLINE CPUS among those (but its own) with the least LOAD, of like ones the least, at what is RESERVED there. */
+    /**
+     * A QUEUE: to that of its ONLINE CPUS among those (but its own) with the least LOAD, of like ones the least,
+     * at what is RESERVED there.
+     */
     private static void moveOfQueue() {
         VectorDeal x = Check.made("cpus 5;vectors 8;off 4;device s single on 1;device m managed 2 on 0 1 2 3 4;device t single on 2;",
                 "start s;start m;start t;raise m 0;");
@@ -629,7 +647,10 @@ public final class ActEdgesTest {
         act(x, "to 2", () -> x.move(0, 0, 2), 0);
     }
 
-    /** UNPLUG ..: is its OLD VECTOR there, that is FREE (RESERVED), and if it was PENDING, the VECTOR that the LINE HOLDS is (MERGED, if it was). */
+    /**
+     * UNPLUG ..: is its OLD VECTOR there, that is FREE (of a QUEUE: RESERVED), and if it was PENDING, the VECTOR
+     * that the LINE HOLDS is (MERGED, if it was).
+     */
     private static void unplugOld() {
         String board = "cpus 3;vectors 8;device a single on 0;device m managed 1 on 0 1;";
         VectorDeal none = Check.made(board, "start a;move a 0 to 1;");
@@ -653,7 +674,8 @@ public final class ActEdgesTest {
 
     /** .. it is DEALT to its SET, if none of that has room, to all CPUS; without an OLD one by it; what was PENDING is PENDING there. */
     private static void unplugToItsSetThenAll() {
-        VectorDeal x = Check.made("cpus 4;vectors 8;kept 1 2 3 4 5 6 7;off 3;device a single on 0 1;device b single on 1;device c single on 0;",
+        VectorDeal x = Check.made("cpus 4;vectors 8;kept 1 2 3 4 5 6 7;off 3;device a single on 0 1;device b single on 1;"
+                + "device c single on 0;",
                 "start a;");
         x.raise(0, 0, false);
         act(x, "to its set", () -> x.unplug(0), 0);
@@ -671,11 +693,13 @@ public final class ActEdgesTest {
         act(x, "b goes to the last one", () -> x.unplug(1), 0);
         due("there", at(x, 1, 0), 300);
         // to the least loaded of its set, though others have less
-        VectorDeal y = Check.made("cpus 4;vectors 8;device a single on 0 1 2;device b group 4 on 1;device c group 2 on 2;", "start a;start b;start c;");
+        VectorDeal y = Check.made("cpus 4;vectors 8;device a single on 0 1 2;device b group 4 on 1;device c group 2 on 2;",
+                "start a;start b;start c;");
         act(y, "the least of its set", () -> y.unplug(0), 0);
         due("2, not 3", at(y, 0, 0), 202);
         // an old one elsewhere stays
-        VectorDeal z = Check.made("cpus 3;vectors 8;device a single;device b group 2 on 0;", "start a;start b;move a 0 to 1;raise a 0;late a 0;");
+        VectorDeal z = Check.made("cpus 3;vectors 8;device a single;device b group 2 on 0;",
+                "start a;start b;move a 0 to 1;raise a 0;late a 0;");
         act(z, "to the least load", () -> z.unplug(1), 0);
         due("2", at(z, 0, 0), 200);
         due("its old one stays", oldAt(z, 0, 0), 0);
@@ -689,7 +713,8 @@ public final class ActEdgesTest {
         due("first", at(x, 0, 0), 200);
         due("last", at(x, 0, 3), 203);
         due("pending", x.vector(2, 0, 3) * 1000 + x.vector(2, 1, 3) * 100 + x.vector(2, 2, 3) * 10 + x.vector(2, 3, 3), 1001);
-        VectorDeal y = Check.made("cpus 2;vectors 8;kept 0 5;device g group 2 on 0;device h group 2;device i group 2 on 1;device j group 4 on 1;",
+        VectorDeal y = Check.made("cpus 2;vectors 8;kept 0 5;device g group 2 on 0;device h group 2;device i group 2 on 1;"
+                + "device j group 4 on 1;",
                 "start g;start i;");
         due("g", at(y, 0, 0), 2);
         act(y, "the next block", () -> y.unplug(0), 0);
@@ -698,13 +723,15 @@ public final class ActEdgesTest {
         due("three are free", z.cpu(1, 1), 3);
         idle(z, "but no block", () -> z.unplug(0), 1);
         // old ones of all of it, of which two pend, one MERGED
-        VectorDeal old = Check.made("cpus 2;vectors 8;device g group 4 on 0;", "start g;raise g 1;raise g 2;move g 0 to 1;raise g 2;raise g 3;");
+        VectorDeal old = Check.made("cpus 2;vectors 8;device g group 4 on 0;",
+                "start g;raise g 1;raise g 2;move g 0 to 1;raise g 2;raise g 3;");
         act(old, "old ones", () -> old.unplug(0), 0);
         due("pending", old.vector(1, 0, 3) * 1000 + old.vector(1, 1, 3) * 100 + old.vector(1, 2, 3) * 10 + old.vector(1, 3, 3), 111);
         due("merged", old.device(0, 6), 1);
         due("free", old.cpu(0, 1), 8);
         // old and held ones on one CPU: to where old ones were brought, all is brought on
-        VectorDeal twice = Check.made("cpus 3;vectors 8;device g group 2 on 0 1;device h group 8 on 2;", "start g;start h;move g 0 to 1;late g 1;raise g 0;");
+        VectorDeal twice = Check.made("cpus 3;vectors 8;device g group 2 on 0 1;device h group 8 on 2;",
+                "start g;start h;move g 0 to 1;late g 1;raise g 0;");
         act(twice, "beside its old ones", () -> twice.unplug(1), 0);
         due("there", at(twice, 0, 0) * 1000 + oldAt(twice, 0, 0), 2000);
         twice.stop(1);
@@ -714,9 +741,13 @@ public final class ActEdgesTest {
         due("both pend", twice.vector(2, 0, 3) * 10 + twice.vector(2, 1, 3), 11);
     }
 
-    /** A QUEUE: as in MOVE, to any of its CPUS (where its OLD one is ..); SHUT, if none is ONLINE (what was PENDING WAITS); .. MERGED, if it was. */
+    /**
+     * A QUEUE: as in MOVE, to any of its CPUS (where its OLD one is, to that ..); SHUT, if none is ONLINE (what was
+     * PENDING WAITS); else what was PENDING is PENDING there (MERGED, if it was).
+     */
     private static void unplugQueue() {
-        VectorDeal x = Check.made("cpus 4;vectors 8;device s single on 1;device m managed 1 on 0 1 2;device o managed 1 on 0;device p managed 1 on 0;",
+        VectorDeal x = Check.made("cpus 4;vectors 8;device s single on 1;device m managed 1 on 0 1 2;device o managed 1 on 0;"
+                + "device p managed 1 on 0;",
                 "start s;start m;start o;start p;raise m 0;raise o 0;");
         act(x, "queues", () -> x.unplug(0), 0);
         due("the least loaded of its own, not 3", at(x, 1, 0), 200);
@@ -729,7 +760,9 @@ public final class ActEdgesTest {
         // where its old one is, which pends or not
         String board = "cpus 2;vectors 8;device m managed 1;";
         for (int pending = 0; pending < 4; pending++) {
-            VectorDeal y = Check.made(board, "start m;move m 0 to 1;" + (pending % 2 == 1 ? "late m 0;" : "") + (pending / 2 == 1 ? "raise m 0;" : ""));
+            String late = pending % 2 == 1 ? "late m 0;" : "";
+            String soon = pending / 2 == 1 ? "raise m 0;" : "";
+            VectorDeal y = Check.made(board, "start m;move m 0 to 1;" + late + soon);
             act(y, "to its old one " + pending, () -> y.unplug(1), 0);
             due("it holds that", at(y, 0, 0) * 10 + y.vector(0, 0, 0), 2);
             due("and has no old one", oldAt(y, 0, 0), NONE);
@@ -746,7 +779,8 @@ public final class ActEdgesTest {
 
     /** 14: REFUSED 1, 2, 4, 5 (5 ahead of 1 and 2, 1 ahead of 2); NONE if there is no such CPU. */
     private static void unplugRefused() {
-        VectorDeal x = Check.made("cpus 2;vectors 8;kept 0 1 2 3 4 5;device g group 2 on 0;device h group 2 on 1;device a single;device b single;");
+        VectorDeal x = Check.made("cpus 2;vectors 8;kept 0 1 2 3 4 5;device g group 2 on 0;device h group 2 on 1;device a single;"
+                + "device b single;");
         for (int cpu : new int[] {-1, 2, 3, 8, 32, LEAST, GREATEST}) {
             idle(x, "unplug " + cpu, () -> x.unplug(cpu), NONE);
         }
@@ -764,7 +798,8 @@ public final class ActEdgesTest {
         idle(x, "5: the only one, ahead of 2", () -> x.unplug(1), 5);
         x.undo();
         // 1 ahead of 2: no block for h, and too few for both promises
-        VectorDeal y = Check.made("cpus 2;vectors 8;kept 0 1 2 3 4;device h group 2 on 0;device s single on 0;device t single on 1;device i group 2;",
+        VectorDeal y = Check.made("cpus 2;vectors 8;kept 0 1 2 3 4;device h group 2 on 0;device s single on 0;device t single on 1;"
+                + "device i group 2;",
                 "start h;start s;start t;claim i;");
         due("two are free on 1", y.cpu(1, 1), 2);
         idle(y, "1 ahead of 2", () -> y.unplug(0), 1);
@@ -800,7 +835,8 @@ public final class ActEdgesTest {
         due("a", at(x, 2, 0), 106);
         due("b", at(x, 3, 0), 107);
         // an OLD one that would be FREE, and MERGED what is PENDING
-        VectorDeal y = Check.made("cpus 2;vectors 8;kept 0 1 2 3;device s single on 0;device a single on 0;device g group 2 on 0;device t single on 1;",
+        VectorDeal y = Check.made("cpus 2;vectors 8;kept 0 1 2 3;device s single on 0;device a single on 0;device g group 2 on 0;"
+                + "device t single on 1;",
                 "start s;move s 0 to 1;late s 0;raise s 0;start a;start g;start t;raise a 0;");
         due("two are free on 1", y.cpu(1, 1), 2);
         idle(y, "s would be merged, a go, g has no block", () -> y.unplug(0), 1);
@@ -812,7 +848,8 @@ public final class ActEdgesTest {
 
     /** PLUG: it is ONLINE; each SHUT QUEUE that has it is HELD there; if it WAITS, it is PENDING there, and WAITS no more. */
     private static void plugOpensShut() {
-        VectorDeal x = Check.made("cpus 4;vectors 8;off 1 2 3;device m managed 4;device n managed 2 on 2 3;device o managed 1 on 2 3;device a single on 3;",
+        VectorDeal x = Check.made("cpus 4;vectors 8;off 1 2 3;device m managed 4;device n managed 2 on 2 3;device o managed 1 on 2 3;"
+                + "device a single on 3;",
                 "start m;start n;start o;raise m 1;raise m 2;raise o 0;raise o 0;");
         due("four wait or pend", x.about(13), 3);
         due("merged", x.about(8), 1);
@@ -852,7 +889,8 @@ public final class ActEdgesTest {
 
     /** (3) an OLD one of the DEVICE's LINE (of a group: of any of it): not one of another LINE or DEVICE. */
     private static void neighboursAreNotMeant() {
-        VectorDeal x = Check.made("cpus 2;vectors 32;device g group 8 on 0;device h group 8 on 0;device a single on 0;device m managed 1;device b single on 0;",
+        VectorDeal x = Check.made("cpus 2;vectors 32;device g group 8 on 0;device h group 8 on 0;device a single on 0;device m managed 1;"
+                + "device b single on 0;",
                 "start g;start h;start a;start b;start m;move h 0 to 1;");
         act(x, "the one behind it has old ones", () -> x.move(0, 0, 2), 0);
         idle(x, "now it has", () -> x.move(0, 7, 2), 3);
@@ -865,7 +903,8 @@ public final class ActEdgesTest {
         act(y, "and has none", () -> y.move(0, 0, 1), 0);
         idle(y, "queue 1 has one yet", () -> y.move(0, 1, 4), 3);
         // stop and raise of one leave another
-        VectorDeal z = Check.made("cpus 1;vectors 32;device g group 8;device h group 8;device i group 8;", "start g;start h;start i;raise g 7;raise i 0;raise h 0;raise h 7;");
+        VectorDeal z = Check.made("cpus 1;vectors 32;device g group 8;device h group 8;device i group 8;",
+                "start g;start h;start i;raise g 7;raise i 0;raise h 0;raise h 7;");
         act(z, "stop of the one between", () -> z.stop(1), 2);
         due("the others pend", z.vector(0, 7, 3) * 10 + z.vector(0, 16, 3), 11);
         due("the others hold", at(z, 0, 7) * 100 + at(z, 2, 0), 716);
@@ -935,7 +974,8 @@ public final class ActEdgesTest {
             undone++;
         }
         due("all taken back", undone, 15);
-        CHECK.same("as at first", Check.state(x), Check.state(Check.made("cpus 3;vectors 8;off 2;device a single;device g group 2;device m managed 3;")));
+        CHECK.same("as at first", Check.state(x), Check.state(Check.made("cpus 3;vectors 8;off 2;device a single;device g group 2;"
+                + "device m managed 3;")));
     }
 
     /** 16 at most are kept, the oldest go. */

@@ -6,7 +6,8 @@ public final class AskEdgesTest {
     private static final int NONE = VectorDeal.NONE;
     private static final int LEAST = Integer.MIN_VALUE;
     private static final int GREATEST = Integer.MAX_VALUE;
-    private static final int[] ODD = {LEAST, -100, -2, -1, 0, 1, 2, 3, 4, 5, 6, 7, 8, 9, 10, 14, 15, 16, 31, 32, 33, 64, 256, 512, 10_000, GREATEST};
+    private static final int[] ODD = {LEAST, -100, -2, -1, 0, 1, 2, 3, 4, 5, 6, 7, 8, 9, 10, 14, 15, 16, 31, 32, 33, 64,
+        256, 512, 10_000, GREATEST};
 
     public static void main(String[] args) {
         cpuOfNone();
@@ -75,7 +76,8 @@ public final class AskEdgesTest {
 
     /** 18: LOAD, FREE ones, RESERVED ones, PENDING ones. */
     private static void cpuFromEmptyToFull() {
-        VectorDeal x = Check.made("cpus 2;vectors 32;kept 31;device a group 8 on 0;device b group 8 on 0;device c group 8 on 0;device d group 4 on 0;"
+        VectorDeal x = Check.made("cpus 2;vectors 32;kept 31;device a group 8 on 0;device b group 8 on 0;device c group 8 on 0;"
+                + "device d group 4 on 0;"
                 + "device m managed 8 on 0;device n managed 1;", "");
         due("18 empty", x.cpu(0, 0) + x.cpu(0, 2) + x.cpu(0, 3) + x.cpu(0, 6), 0);
         due("18 all but one free", x.cpu(0, 1), 31);
@@ -105,7 +107,8 @@ public final class AskEdgesTest {
     private static void greatestBlockOfFree() {
         String[] boards = {"vectors 8;", "vectors 8;kept 0;", "vectors 8;kept 3 4;", "vectors 8;kept 1 2 5 6;", "vectors 8;kept 1 2 5 7;",
             "vectors 8;kept 0 2 4 6;", "vectors 8;kept 0 1 2 3 4 5 6;", "vectors 8;kept 0 1 2 3 4 5 6 7;", "vectors 15;kept 7;",
-            "vectors 16;kept 7;", "vectors 32;kept 0 8 16;", "vectors 31;kept 0 8 16;", "vectors 9;kept 1 3 5 7;", "vectors 10;kept 1 3 5 7;",
+            "vectors 16;kept 7;", "vectors 32;kept 0 8 16;", "vectors 31;kept 0 8 16;", "vectors 9;kept 1 3 5 7;",
+            "vectors 10;kept 1 3 5 7;",
             "vectors 11;kept 0 1 2 3 4 5 6 7;", "vectors 12;kept 0 1 2 3 4 5 6 7;"};
         int[] wants = {8, 4, 2, 1, 1, 1, 1, 0, 4, 8, 8, 4, 1, 2, 2, 4};
         for (int i = 0; i < boards.length; i++) {
@@ -171,7 +174,8 @@ public final class AskEdgesTest {
     /** 20: DELIVERED, MERGED, DROPPED (all of these since board()). */
     private static void countsSinceBoard() {
         String board = "cpus 1;vectors 8;device a single;device b single;";
-        VectorDeal x = Check.made(board, "start a;start b;raise a 0;raise a 0;raise a 0;tick 1;raise a 0;stop a;start a;raise a 0;tick 1;raise a 0;stop a;");
+        VectorDeal x = Check.made(board, "start a;start b;raise a 0;raise a 0;raise a 0;tick 1;raise a 0;stop a;start a;raise a 0;tick 1;"
+                + "raise a 0;stop a;");
         due("20 of a, though it stopped", x.device(0, 5) * 100 + x.device(0, 6) * 10 + x.device(0, 7), 222);
         due("20 of b", x.device(1, 5) * 100 + x.device(1, 6) * 10 + x.device(1, 7), 0);
         due("20 of all", x.about(7) * 100 + x.about(8) * 10 + x.about(9), 222);
@@ -186,7 +190,8 @@ public final class AskEdgesTest {
 
     /** 21: NONE .. if there is no such LINE, or it is not STARTED, or for another what. */
     private static void lineOfNone() {
-        VectorDeal x = Check.made("cpus 2;vectors 16;device a single;device g group 8;device m managed 3;device z single;", "start a;start g;start m;claim z;");
+        VectorDeal x = Check.made("cpus 2;vectors 16;device a single;device g group 8;device m managed 3;device z single;",
+                "start a;start g;start m;claim z;");
         int[] lines = {1, 8, 3, 0};
         for (int a : ODD) {
             for (int b : ODD) {
@@ -204,7 +209,8 @@ public final class AskEdgesTest {
 
     /** 21: the CPU, the VECTOR of its OLD one, 1 if that DRAINS, 1 if it WAITS; NONE where there is none (SHUT). */
     private static void lineWithoutOldAndShut() {
-        VectorDeal x = Check.made("cpus 2;vectors 32;off 1;device a single;device z group 2 on 0;device m managed 1 on 1;device k group 8 on 1;",
+        VectorDeal x = Check.made("cpus 2;vectors 32;off 1;device a single;device z group 2 on 0;device m managed 1 on 1;"
+                + "device k group 8 on 1;",
                 "start a;start z;start m;");
         due("21 at 0 of 0", x.line(0, 0, 0) * 100 + x.line(0, 0, 1), 0);
         due("21 no old one", x.line(0, 0, 2) + x.line(0, 0, 3), 2 * NONE);
@@ -302,7 +308,8 @@ public final class AskEdgesTest {
 
     /** 23: by aligned BLOCKS, on ONLINE CPUS, and not of what is PROMISED to others. */
     private static void roomByBlocks() {
-        VectorDeal x = Check.made("cpus 2;vectors 15;kept 5;off 1;device m managed 1 on 0;device g group 2;device h group 4;device a single;");
+        VectorDeal x = Check.made("cpus 2;vectors 15;kept 5;off 1;device m managed 1 on 0;device g group 2;device h group 4;"
+                + "device a single;");
         due("23 of one", x.room(1), 14);
         due("23 of two", x.room(2), 6);
         due("23 of four", x.room(4), 2);
@@ -314,7 +321,8 @@ public final class AskEdgesTest {
         due("23 with another", x.room(1) * 10 + x.room(4), 273);
         x.unplug(1);
         // so many of these as can be started: they are tried
-        VectorDeal y = Check.made("cpus 2;vectors 8;kept 1 6;device p group 4;device a group 2;device b group 2;device c group 2;device d group 2;device e group 2;");
+        VectorDeal y = Check.made("cpus 2;vectors 8;kept 1 6;device p group 4;device a group 2;device b group 2;device c group 2;"
+                + "device d group 2;device e group 2;");
         due("23 twelve are free", y.about(4), 12);
         due("23 of two", y.room(2), 4);
         y.claim(0);
@@ -329,7 +337,8 @@ public final class AskEdgesTest {
         due("23 none, although four are free", y.room(1) * 10 + y.about(4), 4);
         due("23 and none can be started", y.start(5), 1);
         // fewer than promised
-        VectorDeal z = Check.made("cpus 2;vectors 8;kept 1 2 3 4 5 6 7;device a single on 0;device b single;", "start a;claim b;move a 0 to 1;");
+        VectorDeal z = Check.made("cpus 2;vectors 8;kept 1 2 3 4 5 6 7;device a single on 0;device b single;",
+                "start a;claim b;move a 0 to 1;");
         due("23 fewer than promised", z.room(1) * 10 + z.about(4), 0);
     }
 
@@ -346,7 +355,8 @@ public final class AskEdgesTest {
     private static void balanceOfOnline() {
         due("24 none is online", Check.made("cpus 3;off 0 1 2;").balance(), 0);
         due("24 one", Check.made("cpus 1;device a single;", "start a;").balance(), 0);
-        VectorDeal x = Check.made("cpus 3;vectors 32;off 2;device a group 8 on 0;device b group 8 on 0;device c group 8 on 0;device d group 8 on 0;device e group 2 on 1;");
+        VectorDeal x = Check.made("cpus 3;vectors 32;off 2;device a group 8 on 0;device b group 8 on 0;device c group 8 on 0;"
+                + "device d group 8 on 0;device e group 2 on 1;");
         due("24 empty", x.balance(), 0);
         Check.orders(x, "start a;start b;start c;start d;");
         due("24 full and empty", x.balance(), 32);
@@ -375,7 +385,8 @@ public final class AskEdgesTest {
 
     /** 25: all HELD by LINES of DEVICES of one without OLD ones (wherever they would go). */
     private static void clearOfWhatMustGo() {
-        VectorDeal x = Check.made("cpus 1;vectors 8;device a single;device b single;device c single;device d single;device e single;device f single;"
+        VectorDeal x = Check.made("cpus 1;vectors 8;device a single;device b single;device c single;device d single;device e single;"
+                + "device f single;"
                 + "device g single;device h single;", "start a;start b;start c;start d;start e;start f;start g;start h;");
         due("25 all eight must go, though there is no room", x.clear(8, 0) * 10 + x.clear(8, 2), 80);
         due("25 four", x.clear(4, 0) * 10 + x.clear(4, 2), 40);
@@ -391,7 +402,7 @@ public final class AskEdgesTest {
         // lines of groups, queues, what is reserved or kept, old ones and their lines can't go
         VectorDeal y = Check.made("cpus 2;vectors 8;kept 0;device m managed 1;device g group 2;device a single on 0;device b single on 1;",
                 "start m;start g;start a;start b;");
-        due("25 m, g, a", x.law() + y.line(0, 0, 1) * 100 + y.line(1, 0, 1) * 10 + y.line(2, 0, 1), 122);
+        due("25 m, g, a", y.line(0, 0, 1) * 100 + y.line(1, 0, 1) * 10 + y.line(2, 0, 1), 122);
         due("25 four behind them", y.clear(4, 0) * 100 + y.clear(4, 1) * 10 + y.clear(4, 2), 4);
         due("25 no eight", y.clear(8, 0), NONE);
         VectorDeal z = Check.made("cpus 2;vectors 8;kept 2 4 6;device a single on 0;device b single on 1;", "start a;start b;");
@@ -407,7 +418,8 @@ public final class AskEdgesTest {
 
     /** 25: of like ones the least CPU, the least VECTOR. */
     private static void clearOfLikeOnes() {
-        VectorDeal x = Check.made("cpus 3;vectors 8;off 0;device a single on 1;device b single on 2;device c single on 1;device d single on 1;", "start a;start b;start c;start d;");
+        VectorDeal x = Check.made("cpus 3;vectors 8;off 0;device a single on 1;device b single on 2;device c single on 1;"
+                + "device d single on 1;", "start a;start b;start c;start d;");
         // on 1: a c d, on 2: b
         due("25 eight: one of 2", x.clear(8, 0) * 100 + x.clear(8, 1) * 10 + x.clear(8, 2), 120);
         due("25 four: none of 1, from 4 on", x.clear(4, 0) * 100 + x.clear(4, 1) * 10 + x.clear(4, 2), 14);
@@ -438,7 +450,8 @@ public final class AskEdgesTest {
 
     /** 26: by what it is REFUSED (0: it is not); .. (0 if it is REFUSED). NONE if there is no such CPU, or for another what. */
     private static void withoutRefused() {
-        VectorDeal x = Check.made("cpus 3;vectors 8;kept 0 1 2 3 4 5;off 2;device g group 2 on 0;device h group 2 on 1;device a single;", "start g;start h;");
+        VectorDeal x = Check.made("cpus 3;vectors 8;kept 0 1 2 3 4 5;off 2;device g group 2 on 0;device h group 2 on 1;device a single;",
+                "start g;start h;");
         for (int a : ODD) {
             for (int b : ODD) {
                 boolean is = a >= 0 && a < 3 && (b == 0 || b == 1);
@@ -463,9 +476,10 @@ public final class AskEdgesTest {
 
     /** 26: how many LINES would have another CPU (SHUT ones, too). */
     private static void withoutCountsLines() {
-        VectorDeal x = Check.made("cpus 3;vectors 32;device a single on 0;device g group 8 on 0;device m managed 1 on 0 1;device o managed 2 on 0;device b single on 1;device r managed 1 on 1 0;",
+        VectorDeal x = Check.made("cpus 3;vectors 32;device a single on 0;device g group 8 on 0;device m managed 1 on 0 1;"
+                + "device o managed 2 on 0;device b single on 1;device r managed 1 on 1 0;",
                 "start a;start g;start b;start m;start o;start r;raise a 0;raise o 0;");
-        due("26 m is on 1, r, too", x.line(3, 0, 0) == NONE ? 1 : x.line(2, 0, 0) * 10 + x.line(5, 0, 0), 11);
+        due("26 m is on 1, r, too", x.line(2, 0, 0) * 10 + x.line(5, 0, 0), 11);
         idle(x, "26 a, g, o", () -> x.without(0, 1), 11);
         idle(x, "26 b, m, r", () -> x.without(1, 1), 3);
         idle(x, "26 none", () -> x.without(2, 1), 0);
@@ -528,7 +542,8 @@ public final class AskEdgesTest {
 
     /** STORM: a seed becomes its 137-fold and 71 more, modulo 10,007; modulo 4: 0 is a TICK; else .. the one that is RAISED. */
     private static void stormIsItsRaisesAndTicks() {
-        String board = "cpus 3;vectors 16;off 2;device x single;device a single on 0;device g group 4;device m managed 3;device o managed 1 on 2;device b single on 1;";
+        String board = "cpus 3;vectors 16;off 2;device x single;device a single on 0;device g group 4;device m managed 3;"
+                + "device o managed 1 on 2;device b single on 1;";
         String orders = "start a;start g;start m;start o;start b;move a 0 to 1;late a 0;raise g 1;raise o 0;";
         for (int seed : new int[] {0, 1, 73, 4711, 9_999}) {
             VectorDeal asked = Check.made(board, orders);
@@ -566,7 +581,8 @@ public final class AskEdgesTest {
     private static void quietByTicksAlone() {
         due("28 an empty board", new VectorDeal().quiet(), 0);
         due("28 none online", Check.made("cpus 1;off 0;device m managed 1;", "start m;raise m 0;").quiet(), 0);
-        VectorDeal x = Check.made("cpus 2;vectors 32;off 1;device a group 8;device b group 8;device c group 8;device d group 8;device m managed 1 on 1;");
+        VectorDeal x = Check.made("cpus 2;vectors 32;off 1;device a group 8;device b group 8;device c group 8;device d group 8;"
+                + "device m managed 1 on 1;");
         Check.orders(x, "start a;start b;start c;start d;");
         for (int d = 0; d < 4; d++) {
             for (int l = 0; l < 8; l++) {
@@ -593,7 +609,8 @@ public final class AskEdgesTest {
         due("29 no devices", new VectorDeal().nearest(), NONE);
         due("29 no groups", Check.made("device a single;device m managed 8;").nearest(), NONE);
         due("29 all are started", Check.made("device g group 2;device h group 8;", "start g;start h;").nearest(), NONE);
-        due("29 none has a block", Check.made("vectors 8;kept 0 2 4 6;device g group 2;device h group 4;device i group 8;").nearest(), NONE);
+        due("29 none has a block", Check.made("vectors 8;kept 0 2 4 6;device g group 2;device h group 4;"
+                + "device i group 8;").nearest(), NONE);
         due("29 none is online", Check.made("cpus 1;off 0;device g group 2;").nearest(), NONE);
         due("29 its set does not count", Check.made("cpus 2;off 0;device g group 2 on 0;").nearest(), 0);
         due("29 a promised one counts", Check.made("device a single;device g group 2;", "claim g;").nearest(), 1);
@@ -601,7 +618,8 @@ public final class AskEdgesTest {
 
     /** 29: the DEVICE of which clear() tells the fewest for its size, of like ones the first. */
     private static void nearestOfLikeOnes() {
-        VectorDeal x = Check.made("cpus 1;vectors 8;kept 7;device e group 8;device p group 4;device q group 4;device a single;device b single;device r group 2;device s group 2;");
+        VectorDeal x = Check.made("cpus 1;vectors 8;kept 7;device e group 8;device p group 4;device q group 4;device a single;"
+                + "device b single;device r group 2;device s group 2;");
         due("29 e has none, p is the first", x.nearest(), 1);
         x.start(3);
         due("29 four must lose one, two none", x.nearest(), 5);
@@ -651,7 +669,8 @@ public final class AskEdgesTest {
         x.redo();
         due("30 done again", x.log(0, 1), 82 % 8);
         // more than 40 at once
-        VectorDeal y = Check.made("cpus 8;vectors 8;device a group 8 on 7;device b group 8 on 6;device c group 8 on 5;device d group 8 on 4;device e group 8 on 3;device f group 8 on 2;",
+        VectorDeal y = Check.made("cpus 8;vectors 8;device a group 8 on 7;device b group 8 on 6;device c group 8 on 5;"
+                + "device d group 8 on 4;device e group 8 on 3;device f group 8 on 2;",
                 "start a;start b;start c;start d;start e;start f;");
         for (int d = 0; d < 6; d++) {
             for (int l = 0; l < 8; l++) {
@@ -666,7 +685,8 @@ public final class AskEdgesTest {
 
     /** 30: its DEVICE, LINE, CPU, VECTOR, 1 if by an OLD one: from the first VECTOR to the last. */
     private static void logTellsAll() {
-        VectorDeal x = Check.made("cpus 8;vectors 32;device z single on 7;device g group 8;device h group 8 on 7;", "start h;start g;raise g 0;raise g 1;raise h 0;tick 2;");
+        VectorDeal x = Check.made("cpus 8;vectors 32;device z single on 7;device g group 8;device h group 8 on 7;",
+                "start h;start g;raise g 0;raise g 1;raise h 0;tick 2;");
         // the least LINE of DEVICE 1 is at VECTOR 0 of CPU 0
         due("30 g 0", entry(x, 0), 1_000_000);
         due("30 h 0, and g 1 ahead of it", entry(x, 1) * 10 + entry(x, 2), 2_007_000 * 10 + 1_010_010);
@@ -695,14 +715,15 @@ public final class AskEdgesTest {
 
     /** 31: whose NAME begins with the first so many letters (1 .. 7) of that of a DEVICE (with all of it, if it has not so many). */
     private static void alikeByLetters() {
-        VectorDeal x = Check.made("cpus 8;device abcdefg single;device abcdefh single;device abcdef single;device abc single;device a single;device b single;device ba single;device zzzzzzz single;");
+        VectorDeal x = Check.made("cpus 8;device abcdefg single;device abcdefh single;device abcdef single;device abc single;"
+                + "device a single;device b single;device ba single;device zzzzzzz single;");
         for (int d = 0; d < 8; d++) {
             x.start(d);
             x.raise(d, 0, false);
         }
         due("31 delivered", x.tick(1), 8);
-        int[][] wants = {{5, 4, 4, 3, 3, 3, 1}, {5, 4, 4, 3, 3, 3, 1}, {5, 4, 4, 3, 3, 3, 3}, {5, 4, 4, 4, 4, 4, 4}, {5, 5, 5, 5, 5, 5, 5}, {2, 2, 2, 2, 2, 2, 2},
-            {2, 1, 1, 1, 1, 1, 1}, {1, 1, 1, 1, 1, 1, 1}};
+        int[][] wants = {{5, 4, 4, 3, 3, 3, 1}, {5, 4, 4, 3, 3, 3, 1}, {5, 4, 4, 3, 3, 3, 3}, {5, 4, 4, 4, 4, 4, 4},
+            {5, 5, 5, 5, 5, 5, 5}, {2, 2, 2, 2, 2, 2, 2}, {2, 1, 1, 1, 1, 1, 1}, {1, 1, 1, 1, 1, 1, 1}};
         for (int d = 0; d < 8; d++) {
             for (int letters = 1; letters <= 7; letters++) {
                 due("31 alike " + d + " " + letters, x.alike(d, letters), wants[d][letters - 1]);
@@ -735,9 +756,12 @@ public final class AskEdgesTest {
 
     /** 32: 0 always. */
     private static void lawIsKept() {
-        VectorDeal x = Check.made("cpus 4;vectors 8;kept 0;off 3;device a single;device g group 2;device m managed 2;device o managed 5 on 3 2;device h group 4 on 0;");
-        String steps = "start a|start g|start m|start o|start h|raise a 0|move a 0 to 0 1 2|late a 0|move g 1 to 0 1 2 3|move m 1 to 3|plug 3|move m 1 to 3|late m 1|raise m 1|"
-                + "raise g 0|tick 1|unplug 0|tick 2|unplug 1|raise o 1|unplug 2|unplug 3|plug 0|stop o|unplug 3|plug 1|plug 2|stop g|stop m|stop a|stop h";
+        VectorDeal x = Check.made("cpus 4;vectors 8;kept 0;off 3;device a single;device g group 2;device m managed 2;"
+                + "device o managed 5 on 3 2;device h group 4 on 0;");
+        String steps = "start a|start g|start m|start o|start h|raise a 0|move a 0 to 0 1 2|late a 0|move g 1 to 0 1 2 3|move m 1 to 3|"
+                + "plug 3|move m 1 to 3|late m 1|raise m 1|"
+                + "raise g 0|tick 1|unplug 0|tick 2|unplug 1|raise o 1|unplug 2|unplug 3|plug 0|stop o|unplug 3|plug 1|plug 2|stop g|"
+                + "stop m|stop a|stop h";
         for (String step : steps.split("\\|")) {
             Check.orders(x, step + ";");
             due("32 behind " + step, x.law(), 0);
@@ -751,7 +775,10 @@ public final class AskEdgesTest {
         due("32 at first", new VectorDeal().law(), 0);
     }
 
-    /** 33: a BOX 0, 1: LINES that are HELD; NONE if there is none such. 34: NONE, doing nothing, if nothing was, or there is no such BOX. */
+    /**
+     * 33: a BOX 0, 1: LINES that are HELD; NONE if there is none such. 34: NONE, doing nothing, if nothing was, or
+     * there is no such BOX.
+     */
     private static void imageOfNone() {
         VectorDeal x = Check.made("cpus 2;vectors 16;off 1;device g group 8;device m managed 8;device a single;", "start a;");
         for (int box : ODD) {
@@ -829,7 +856,8 @@ public final class AskEdgesTest {
         for (int what = 0; what <= 13; what++) {
             due("35 empty " + what, new VectorDeal().about(what), empty[what]);
         }
-        VectorDeal x = Check.made("cpus 8;vectors 32;off 7;device a group 8;device b group 8;device c group 8;device d group 8;device e group 8;device f group 8;"
+        VectorDeal x = Check.made("cpus 8;vectors 32;off 7;device a group 8;device b group 8;device c group 8;device d group 8;"
+                + "device e group 8;device f group 8;"
                 + "device g group 8;device h group 8;device i group 8;device m managed 8 on 7;");
         due("35 the greatest", x.about(0) * 10_000 + x.about(1) * 100 + x.about(2), 83_210);
         due("35 online", x.about(3), 127);

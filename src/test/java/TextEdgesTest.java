@@ -633,7 +633,8 @@ public final class TextEdgesTest {
         String[] texts = {"#", "cpus 3;vectors 9;kept 1;off 0;device q single;cpus", "cpus 0;", "device b single;device b single;",
             "device a group 8;device c", "vectors 32;kept 32;"};
         for (String text : texts) {
-            VectorDeal x = Check.made("cpus 2;vectors 8;device a single;device m managed 2;", "start a;start m;raise a 0;tick 1;raise m 1;");
+            VectorDeal x = Check.made("cpus 2;vectors 8;device a single;device m managed 2;",
+                    "start a;start m;raise a 0;tick 1;raise m 1;");
             x.image(1);
             x.tick(1);
             x.raise(0, 0, false);
@@ -683,7 +684,8 @@ public final class TextEdgesTest {
         x.tick(1);
         x.undo();
         String before = Check.state(x);
-        for (String text : new String[] {"tick 1;#", "stop a;start b;tick 0;", "raise a 0;raise c 0;", "stop a;tick 1", "start a;start c;"}) {
+        for (String text : new String[] {"tick 1;#", "stop a;start b;tick 0;", "raise a 0;raise c 0;", "stop a;tick 1",
+                "start a;start c;"}) {
             due("5 fault " + text, Check.orders(x, text), NONE);
             CHECK.same("5 nothing by " + text, Check.state(x), before);
             due("5 tape is empty", x.about(12), 0);
