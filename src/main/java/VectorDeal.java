@@ -1414,8 +1414,11 @@ public final class VectorDeal {
             promised = other.promised;
             System.arraycopy(other.heldAt, 0, heldAt, 0, ID_LIMIT);
             System.arraycopy(other.oldAt, 0, oldAt, 0, ID_LIMIT);
-            System.arraycopy(other.drains, 0, drains, 0, ID_LIMIT);
-            System.arraycopy(other.waits, 0, waits, 0, ID_LIMIT);
+            // The library's copies are for rows of numbers.
+            for (int id = 0; id < ID_LIMIT; id++) {
+                drains[id] = other.drains[id];
+                waits[id] = other.waits[id];
+            }
         }
 
         boolean isStarted(int device) {

@@ -109,6 +109,11 @@ public final class LanguageTest {
                 good("sign " + (int) sign, false);
             }
         }
+        Matcher truths = Pattern.compile("boolean\\[\\] (\\w+)").matcher(code);
+        while (truths.find()) {
+            Pattern copied = Pattern.compile("(arraycopy|fill)\\([^;]*\\b" + truths.group(1) + "\\b");
+            good("only rows of numbers are copied: " + truths.group(1), !copied.matcher(code).find());
+        }
         methodsAreShort(code);
         objectsAreMadeByConstructors(code);
     }
