@@ -24,6 +24,11 @@ public final class DepthTest {
     private static final Map<String, Integer> DEPTHS = new HashMap<>();
 
     public static void main(String[] args) throws Exception {
+        if (ToolProvider.findFirst("javap").isEmpty()) {
+            // .ci/run may count on javac and java alone.
+            System.out.println("DepthTest: there is no javap here, so how deep calls go was NOT counted");
+            return;
+        }
         List<String> names = new ArrayList<>();
         names.add("VectorDeal");
         for (Class<?> inside : VectorDeal.class.getDeclaredClasses()) {
